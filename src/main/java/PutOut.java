@@ -1050,8 +1050,8 @@ public final class PutOut {
             if (fault != NONE) {
                 return;
             }
-            for (; at < size && (bytes[at] == ' ' || bytes[at] == '\n'); at++) {
-                continue;
+            while (at < size && (bytes[at] == ' ' || bytes[at] == '\n')) {
+                at++;
             }
             start = at;
             if (at >= size) {
@@ -1067,8 +1067,8 @@ public final class PutOut {
         }
 
         private int word() {
-            for (; at < size && isLetter(bytes[at]); at++) {
-                continue;
+            while (at < size && isLetter(bytes[at])) {
+                at++;
             }
             int key = spells("moves") ? KEY - MOVES : spells("ugly") ? KEY - UGLY : spells("minds") ? KEY - MINDS
                     : spells("or") ? OR : spells("and") ? AND : spells("not") ? NOT : WRONG;
@@ -1093,8 +1093,9 @@ public final class PutOut {
 
         private int digits() {
             value = 0;
-            for (; at < size && isDigit(bytes[at]); at++) {
+            while (at < size && isDigit(bytes[at])) {
                 value = value * DIGIT + bytes[at] - '0';
+                at++;
             }
             return at - start > LONGEST ? WRONG : DIGITS;
         }

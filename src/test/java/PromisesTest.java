@@ -18,6 +18,7 @@ final class PromisesTest {
         dayByMinds();
         best();
         bestWithFewGoes();
+        bestByOneGo();
         bestByPlaces();
         tidy();
         once();
@@ -252,6 +253,8 @@ final class PromisesTest {
         fault("moves\t1;", 5);
         fault("moves 1 / 2;", 8);
         fault("moves " + (char) 233, 6);
+        fault("moves zoves;", 6);
+        fault("zoves 1;", 0);
         fault("moves 12345;", 6);
         fault("moves 00001;", 6);
         fault("moves 1 2;", 8);
@@ -316,6 +319,7 @@ final class PromisesTest {
         value("2<3", 1);
         value("3<3", 0);
         value("3=3", 1);
+        value("3=2", 0);
         value("3=2+1", 1);
         value("2*3<7", 1);
         value("(2<3)+(3<2)+5", 6);
@@ -323,6 +327,8 @@ final class PromisesTest {
         value("0 or 0", 0);
         value("7 and 9", 1);
         value("7 and 0", 0);
+        value("0 and 7", 0);
+        value("1 and 1", 1);
         value("1 or 0 and 0", 1);
         value("(1 or 0) and 0", 0);
         value("not 5", 0);
@@ -471,6 +477,15 @@ final class PromisesTest {
         }
     }
 
+    private static void bestByOneGo() {
+        PutOut x = new PutOut();
+        x.thing(2, 9, 0);
+        x.thing(0, 9, 0);
+        due("10: one go", x.best(1, 1, NONE), 21);
+        due("10: the CLOCK is MISSED more", x.best(1, 1, 0), 0);
+        due("10: the THING must wait", x.best(1, 1, 1), NONE);
+    }
+
     private static void bestByPlaces() {
         PutOut x = by("moves place ; ugly place ; minds 50 ;");
         x.thing(0, 0, 0);
@@ -559,6 +574,9 @@ final class PromisesTest {
         x.put(0, 0);
         due("13: from where it is", x.week(0), 1 + 2 * 5);
         due("13: nothing truly", x.told(0, 4), 0);
+        days(x, 0, 0, 0, 0, 0, 0, 0);
+        due("13: one THING", x.week(1), 1);
+        due("13: one DAY", x.week(2), 1);
         due("13: what -1", x.week(-1), BAD);
         due("13: what 3", x.week(3), BAD);
     }
@@ -568,6 +586,10 @@ final class PromisesTest {
         due("14: of like ones the first", x.dearest(0), 0);
         x.thing(0, 5, 0);
         x.thing(0, 5, 1);
+        days(x, 2, 1);
+        // On DAY 0 one is PUT out, on DAY 1 it goes and the other one is PUT out, on DAY 2 that one goes.
+        due("14: of like ones the first, both come", x.dearest(0), 0);
+        due("14: WEEK without her", x.dearest(1), 6);
         days(x, 0, 1, 0, 2, 0, 2, 0);
         due("14: all", x.week(0), 18);
         due("14: GUEST 1", x.dearest(0), 1);
@@ -603,6 +625,16 @@ final class PromisesTest {
         z.thing(5, 0, 0);
         z.put(1, 0);
         due("15: moves may be dear, but none are due", z.give(), NONE);
+        z.put(0, 1);
+        due("15: a go for nothing is none", z.give(), NONE);
+        PutOut clocks = new PutOut();
+        clocks.thing(2, 9, 3);
+        clocks.put(0, 0);
+        for (int t = 1; t < 5; t++) {
+            clocks.thing(2, 9, 0);
+        }
+        days(clocks, 1, 1, 1, 1, 1, 1, 1);
+        due("15: what is given away needs no PLACE", clocks.give(), 0);
     }
 
     private static void seat() {
@@ -766,6 +798,7 @@ final class PromisesTest {
         PutOut none = new PutOut();
         due("20: all of ten", none.chance(3, 10, 0), 1);
         due("20: lowest terms", none.chance(3, 10, 1), 1);
+        due("20: all of one", none.chance(3, 1, 0), 1);
         for (int n : new int[] {0, 11, -1, Integer.MIN_VALUE}) {
             due("20: n " + n, none.chance(0, n, 0), PutOut.NO);
         }
