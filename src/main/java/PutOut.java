@@ -21,7 +21,10 @@ public final class PutOut {
     /** The parts of a TEXT, and the bound of what each tells. */
     private static final int MOVES = 0, UGLY = 1, MINDS = 2, PARTS = 3, BOUND = 99;
 
-    /** TOKENS, and what a read TEXT is made of: a number from 0 on stands for itself. */
+    /**
+     * TOKENS, and what a read TEXT is made of: a number from 0 on stands for itself. KEY less a part
+     * (0 .. 2) is the word that begins it.
+     */
     private static final int IS_THING = -1, IS_PLACE = -2, IS_GIVER = -3, IS_GUESTS = -4, IS_LOOK = -5,
             IS_NUMBER = -6, OR = -7, AND = -8, NOT = -9, LESS = -10, LIKE = -11, PLUS = -12, MINUS = -13,
             TIMES = -14, NEGATED = -15, END_OF_PART = -16, OPENS = -17, CLOSES = -18, KEY = -19,
@@ -220,7 +223,8 @@ public final class PutOut {
         int who = 0;
         int least = TOO_MUCH;
         for (int g = 0; g < GUESTS; g++) {
-            int cost = planner.weekWithout(house.days, g);
+            planner.leaveOut(house.days, g);
+            int cost = planner.weekCost();
             if (cost < least) {
                 least = cost;
                 who = g;
@@ -234,7 +238,8 @@ public final class PutOut {
         int which = NONE;
         int least = planner.weekCost();
         for (int t = 0; t < house.count; t++) {
-            int cost = planner.weekHavingGiven(t);
+            planner.giveAway(t);
+            int cost = planner.weekCost() + planner.lackOf(t);
             if (cost < least) {
                 least = cost;
                 which = t;
@@ -1070,13 +1075,28 @@ public final class PutOut {
             while (at < size && isLetter(bytes[at])) {
                 at++;
             }
-            int key = spells("moves") ? KEY - MOVES : spells("ugly") ? KEY - UGLY : spells("minds") ? KEY - MINDS
-                    : spells("or") ? OR : spells("and") ? AND : spells("not") ? NOT : WRONG;
-            if (key != WRONG) {
-                return key;
-            }
-            return spells("thing") ? IS_THING : spells("place") ? IS_PLACE : spells("giver") ? IS_GIVER
-                    : spells("guests") ? IS_GUESTS : spells("look") ? IS_LOOK : spells("number") ? IS_NUMBER : WRONG;
+            int key = key();
+            return key == WRONG ? name() : key;
+        }
+
+        private int key() {
+            return spells("moves") ? KEY - MOVES
+                    : spells("ugly") ? KEY - UGLY
+                    : spells("minds") ? KEY - MINDS
+                    : spells("or") ? OR
+                    : spells("and") ? AND
+                    : spells("not") ? NOT
+                    : WRONG;
+        }
+
+        private int name() {
+            return spells("thing") ? IS_THING
+                    : spells("place") ? IS_PLACE
+                    : spells("giver") ? IS_GIVER
+                    : spells("guests") ? IS_GUESTS
+                    : spells("look") ? IS_LOOK
+                    : spells("number") ? IS_NUMBER
+                    : WRONG;
         }
 
         private boolean spells(String word) {
@@ -1302,16 +1322,18 @@ public final class PutOut {
             return cost;
         }
 
-        int weekWithout(int[] allDays, int guest) {
+        void leaveOut(int[] allDays, int guest) {
             for (int d = 0; d < DAYS; d++) {
                 days[d] = allDays[d] & ~(1 << guest);
             }
-            return weekCost();
         }
 
-        int weekHavingGiven(int t) {
+        void giveAway(int t) {
             absent = t;
-            int cost = weekCost();
+        }
+
+        int lackOf(int t) {
+            int cost = 0;
             for (int d = 0; d < DAYS; d++) {
                 cost += things[t].lackFor(days[d]);
             }
