@@ -255,6 +255,7 @@ final class PromisesTest {
         fault("moves " + (char) 233, 6);
         fault("moves zoves;", 6);
         fault("zoves 1;", 0);
+        fault("moves lookz;", 6);
         fault("moves 12345;", 6);
         fault("moves 00001;", 6);
         fault("moves 1 2;", 8);
