@@ -46,6 +46,8 @@ final class LanguageTest {
             CHECKS.due("rule 1: " + m, isPublic || Modifier.isPrivate(m.getModifiers()) ? 1 : 0, 1);
             if (isPublic) {
                 seen.add(m.getName() + "(" + m.getParameterCount() + ")");
+            } else {
+                CHECKS.due("rule 1: a name of the face " + m, (" " + FACE).contains(" " + m.getName() + "(") ? 1 : 0, 0);
             }
         }
         CHECKS.due("rule 1: the methods " + seen, seen.equals(new TreeSet<>(Set.of(FACE.split(" ")))) ? 1 : 0, 1);

@@ -1,8 +1,5 @@
 /** The promises one by one: ordinary inputs, the edges that the document names, and wrong inputs. */
-final class PromisesTest {
-    private static final Checks CHECKS = new Checks();
-    private static final int NONE = PutOut.NONE, BAD = PutOut.BAD, STATE = PutOut.STATE, FULL = PutOut.FULL;
-
+final class PromisesTest extends Scene {
     public static void main(String[] args) {
         newObject();
         set();
@@ -41,38 +38,6 @@ final class PromisesTest {
         things();
         taken();
         CHECKS.end();
-    }
-
-    private static void due(String what, long got, long want) {
-        CHECKS.due(what, got, want);
-    }
-
-    private static int text(PutOut x, String s) {
-        for (int i = 0; i < s.length(); i++) {
-            x.feed(s.charAt(i));
-        }
-        return x.text();
-    }
-
-    /** A new object whose RULE is a text. */
-    private static PutOut by(String rule) {
-        PutOut x = new PutOut();
-        due("rule: " + rule, x.force(text(x, rule)), 0);
-        return x;
-    }
-
-    private static void days(PutOut x, int... guests) {
-        for (int d = 0; d < guests.length; d++) {
-            x.set(2, d, guests[d]);
-        }
-    }
-
-    /** A SHEET of ints that tells some numbers. */
-    private static void row(PutOut x, int sheet, int... numbers) {
-        x.sheet(sheet, 2, numbers.length);
-        for (int i = 0; i < numbers.length; i++) {
-            x.cell(sheet, i, numbers[i]);
-        }
     }
 
     private static void newObject() {
